@@ -6,11 +6,21 @@ final class Checks {
     }
 
     private final String title;
+    private String sentence = "";
     private int right;
     private int wrong;
+    private int atSentence;
 
     Checks(String title) {
         this.title = title;
+    }
+
+    /** What is checked from here on tests these words, which stand in that part of the document. */
+    void sentence(String part, String words) {
+        endSentence();
+        sentence = part + " \"" + words + "\": ";
+        check(Document.says(part, words), "the document", "it does not say so", "that it says so");
+        atSentence = right + wrong;
     }
 
     void same(String what, long got, long want) {
@@ -53,10 +63,19 @@ final class Checks {
     }
 
     void end() {
+        endSentence();
         System.out.println(title + ": " + right + " right, " + wrong + " wrong");
         if (wrong != 0) {
             System.exit(1);
         }
+    }
+
+    /** A sentence that nothing was checked for would only look tested. */
+    private void endSentence() {
+        if (!sentence.isEmpty()) {
+            check(right + wrong > atSentence, "its checks", "none", "one or more");
+        }
+        sentence = "";
     }
 
     private void check(boolean isRight, String what, String got, String want) {
@@ -64,7 +83,7 @@ final class Checks {
             right++;
         } else {
             wrong++;
-            System.out.println(title + ": " + what + " answered " + got + ", due is " + want);
+            System.out.println(title + ": " + sentence + what + " answered " + got + ", due is " + want);
         }
     }
 }
