@@ -1,7 +1,10 @@
+import java.io.IOException;
 import java.lang.reflect.Constructor;
 import java.lang.reflect.Field;
 import java.lang.reflect.Method;
 import java.lang.reflect.Modifier;
+import java.nio.file.Files;
+import java.nio.file.Path;
 import java.util.HashSet;
 import java.util.Set;
 import java.util.TreeSet;
@@ -37,6 +40,13 @@ public final class FaceTest {
         "long digest()");
 
     public static void main(String[] args) {
+        isAllThatIsSeen();
+        isWrittenInOrder(source());
+        remarksStandAhead(source());
+        CHECKS.end();
+    }
+
+    private static void isAllThatIsSeen() {
         Set<String> shown = new TreeSet<>();
         Set<String> publicNames = new HashSet<>();
         for (Method method : Palmward.class.getDeclaredMethods()) {
@@ -59,7 +69,61 @@ public final class FaceTest {
             Modifier.isPublic(constructors[0].getModifiers()) && constructors[0].getParameterCount() == 0);
         CHECKS.isTrue("a public final class",
             Modifier.isPublic(Palmward.class.getModifiers()) && Modifier.isFinal(Palmward.class.getModifiers()));
-        CHECKS.end();
+    }
+
+    /** Line by line, with the arguments' names, which cannot be seen from outside. */
+    private static void isWrittenInOrder(String source) {
+        int at = 0;
+        for (String line : Document.partOf("The public face")) {
+            if (line.contains("public ")) {
+                CHECKS.sentence("The public face", line);
+                at = source.indexOf(line.replace(";", " {"), at);
+                CHECKS.isTrue("it stands behind the one before", at >= 0);
+                at = Math.max(at, 0);
+            }
+        }
+    }
+
+    private static void remarksStandAhead(String source) {
+        for (String line : Document.partOf("Terms")) {
+            if (line.startsWith("Ahead of the calls ")) {
+                CHECKS.sentence("Terms", line);
+                String remark = line.substring(line.indexOf("----"), line.length() - 1);
+                String[] parts = source.split("// ----");
+                for (String part : parts) {
+                    if (("----" + part).startsWith(remark + "\n")) {
+                        CHECKS.same("the calls behind it", callsIn(part), callsNamedIn(line));
+                    }
+                }
+            }
+        }
+    }
+
+    private static String callsIn(String source) {
+        StringBuilder calls = new StringBuilder();
+        for (String line : source.split("\n")) {
+            if (line.startsWith("    public ")) {
+                calls.append(line.split("[ (]+")[3]).append(' ');
+            }
+        }
+        return calls.toString();
+    }
+
+    private static String callsNamedIn(String line) {
+        StringBuilder calls = new StringBuilder();
+        String[] parts = line.split("`");
+        for (int part = 1; part < parts.length; part += 2) {
+            calls.append(parts[part]).append(' ');
+        }
+        return calls.toString();
+    }
+
+    private static String source() {
+        try {
+            return Files.readString(Path.of("src", "main", "java", "Palmward.java"));
+        } catch (IOException gone) {
+            return "";
+        }
     }
 
     private static String signatureOf(Method method) {
